@@ -811,13 +811,18 @@ public final class AnchoredComments {
             }
         }
 
+        // the dearest loop of all, so it looks into the quote's row itself
         private void takeLetter(Text quote, int letter) {
+            int[] letters = quote.letters;
+            int last = Math.min(quote.size, Math.min(letters.length, row.length - 1));
             int diagonal = row[0];
-            row[0] = diagonal + 1;
-            for (int j = 1; j <= quote.size && j < row.length; j++) {
+            int left = diagonal + 1;
+            row[0] = left;
+            for (int j = 1; j <= last; j++) {
                 int above = row[j];
-                int exchanged = quote.at(j - 1) == letter ? diagonal : diagonal + 1;
-                row[j] = Math.min(exchanged, 1 + Math.min(above, row[j - 1]));
+                int exchanged = letters[j - 1] == letter ? diagonal : diagonal + 1;
+                left = Math.min(exchanged, 1 + Math.min(above, left));
+                row[j] = left;
                 diagonal = above;
             }
         }
@@ -859,7 +864,7 @@ public final class AnchoredComments {
         }
 
         void addUp(Choices behind) {
-            int greatest = behind.sumFrom(size);
+            int greatest = 0;
             for (int start = sums.length - 1; start >= 0; start--) {
                 greatest = Math.max(greatest, behind.sumFrom(start));
                 if (start < size && scores[start] != NONE) {

@@ -9,6 +9,9 @@ public final class AttachTest {
         rangesAsBefore();
         order();
         equalSums();
+        tenOrphans();
+        lastLetters();
+        fewerThanBefore();
         Check.finish();
     }
 
@@ -178,5 +181,48 @@ public final class AttachTest {
         z.setThreshold(0);
         Check.due("11 both at their places", z.attachAll(), 2);
         Check.due("11 their ranges", Check.range(z, 0) + " " + Check.range(z, 1), "0-1 1-2");
+    }
+
+    private static void tenOrphans() {
+        AnchoredComments x = Check.with("a1b2c3d4e5f6g7h8i9j0");
+        for (int i = 0; i < 10; i++) {
+            x.comment(2 * i, 2 * i + 2);
+        }
+        Check.load(x, "~~~a1b2c3d4e5f6g7h8i9j0");
+        Check.due("11 ten", x.attachAll(), 10);
+        for (int i = 0; i < 10; i++) {
+            Check.due("11 ten, range " + i, Check.range(x, i), (3 + 2 * i) + "-" + (5 + 2 * i));
+        }
+    }
+
+    /** Two ORPHANs of the last letter of a document of 120 letters. */
+    private static void lastLetters() {
+        AnchoredComments x = Check.with("........................................");
+        x.insert(0);
+        Check.insert(x, 80, ".......................................");
+        Check.insert(x, 119, "q");
+        x.comment(119, 120);
+        x.comment(119, 120);
+        x.delete(119, 1);
+        x.insert(119);
+        Check.due("11 at the end", Check.range(x, 0) + " " + Check.range(x, 1), "120-120? 120-120?");
+        Check.due("10 the last letter", x.best(0, 1), 119);
+        Check.due("11 the last letter for both", x.attachAll(), 2);
+        Check.due("11 ranges of both", Check.range(x, 0) + " " + Check.range(x, 1), "119-120 119-120");
+    }
+
+    /** What was planned for more ORPHANs before must not bind those of now. */
+    private static void fewerThanBefore() {
+        AnchoredComments x = Check.with("cd..ab");
+        x.comment(0, 2);
+        x.comment(4, 6);
+        Check.load(x, "c.ab..cd");
+        x.setThreshold(50);
+        Check.due("11 two", x.attachAll(), 2);
+        Check.due("11 ranges of two", Check.range(x, 0) + " " + Check.range(x, 1), "0-1 2-4");
+        x.undo();
+        x.remove(1);
+        Check.due("11 one then", x.attachAll(), 1);
+        Check.due("11 range of one", Check.range(x, 0), "6-8");
     }
 }
