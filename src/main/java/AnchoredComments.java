@@ -411,7 +411,7 @@ public final class AnchoredComments {
 
         void putLetters(int position, Text other) {
             int many = other.size;
-            if (position < 0 || position > size || many > letters.length - size) {
+            if (position < 0 || position > size || many < 0 || many > letters.length - size) {
                 return;
             }
             for (int i = size - 1; i >= position; i--) {

@@ -1,228 +1,264 @@
-/** Promises 10 and 11: attach, attachAll. */
-public final class AttachTest {
+import java.util.function.Supplier;
+
+/** Promises 10 and 11 and their edges: attaching, alone and together. */
+public final class AttachTest extends Cases {
     public static void main(String[] args) {
-        attach();
-        attachThreshold();
-        attachAll();
-        together();
-        noneButCandidate();
-        rangesAsBefore();
-        order();
-        equalSums();
-        tenOrphans();
-        lastLetters();
-        fewerThanBefore();
+        alone();
+        aloneAtThreshold();
+        togetherAtThreshold();
+        starts();
+        orders();
+        sums();
+        preferences();
+        far();
+        others();
         Check.finish();
     }
 
-    private static void attach() {
-        AnchoredComments x = Check.with("one two three");
-        x.comment(4, 7);
-        Check.due("10 attached", x.attach(0), AnchoredComments.NOT_POSSIBLE);
-        Check.due("10 number", x.attach(1), AnchoredComments.BAD_INDEX);
-        Check.load(x, "three, two, one");
-        Check.due("10 attach", x.attach(0), 7);
-        Check.due("10 range", Check.range(x, 0), "7-10");
-        Check.due("10 quotes stay", Check.quotes(x, 0), "one |two| three");
-        Check.due("10 weight stays", x.weight(0), 1);
-        Check.due("10 once", x.attach(0), AnchoredComments.NOT_POSSIBLE);
-        Check.due("10 undo", x.undo(), 3);
-        Check.due("10 undone", Check.range(x, 0), "4-7?");
-        x.clearBuffer();
-        x.load();
-        x.setThreshold(0);
-        Check.due("10 no candidates", x.attach(0), AnchoredComments.NONE);
-        Check.due("10 stays", Check.range(x, 0), "0-0?");
+    private static void alone() {
+        answers("10 attach: the start 0 is no error", after(document("abc"), x -> {
+            x.comment(0, 3);
+            x.load();
+        }), x -> x.attach(0), 0);
+        test("10 attach: the range, the state, and what stays", () -> {
+            AnchoredComments x = Check.with("ab-cd-ef");
+            x.comment(3, 5);
+            x.comment(3, 5);
+            x.merge();
+            Check.load(x, "..ab-cX-ef");
+            x.setThreshold(30);
+            Check.due("best", x.best(0, 0), 60 - 10 + 12 + 12);
+            Check.due("attach", x.attach(0), 5);
+            Check.due("all", Check.all(x), "..ab-cX-ef #0 5-7 ab-|cd|-ef*2");
+        });
+        test("10 attach: only this one", () -> {
+            AnchoredComments x = Scenes.small();
+            Check.load(x, "abcdefgh");
+            Check.due("attach", x.attach(1), 3);
+            Check.due("ranges", Check.range(x, 0) + " " + Check.range(x, 1) + " " + Check.range(x, 3), "0-2? 3-5 6-8?");
+        });
+        test("10 attach: an attached one moves and is lost again", () -> {
+            AnchoredComments x = Scenes.small();
+            Check.load(x, "abcdefgh");
+            x.attach(1);
+            Check.insert(x, 4, "..");
+            Check.due("range", Check.range(x, 1), "3-7");
+            Check.due("delete", x.delete(3, 4), 1);
+            Check.due("range then", Check.range(x, 1), "3-3?");
+            Check.due("attach again", x.attach(1), NONE);
+        });
+        test("10 attach: the starts of others do not bind it", () -> {
+            AnchoredComments x = Check.with("ab..cd");
+            x.comment(0, 2);
+            x.comment(4, 6);
+            Check.load(x, "cd..ab");
+            Check.due("attach the first", x.attach(0), 4);
+            Check.due("attach the second", x.attach(1), 0);
+        });
     }
 
-    private static void attachThreshold() {
+    /** An ORPHAN with the quote abc in a document in which its best score is 50. */
+    private static AnchoredComments ofFifty(int threshold) {
         AnchoredComments x = Check.with("abc");
         x.comment(0, 3);
         Check.load(x, "abd");
-        x.setThreshold(51);
-        Check.due("10 best", x.best(0, 0), 50);
-        Check.due("10 below", x.attach(0), AnchoredComments.NONE);
-        Check.due("11 below", x.attachAll(), 0);
-        x.setThreshold(50);
-        Check.due("10 at least", x.attach(0), 0);
-        x.undo();
-        Check.due("11 at least", x.attachAll(), 1);
-        Check.due("11 range", Check.range(x, 0), "0-2");
-        Check.load(x, "zzz");
-        x.setThreshold(30);
-        Check.due("11 of 30", x.attachAll(), 1);
-        Check.load(x, "zzzzzzzzzzzzzzzzzzzzzzzzzzzzzzzzzzzzzzzz");
-        x.setThreshold(31);
-        Check.due("11 of 31", x.attachAll(), 0);
-        AnchoredComments y = Check.with("abcdefg");
-        y.comment(0, 7);
-        Check.load(y, "zzzz");
-        y.setThreshold(0);
-        Check.due("10 negative", y.attach(0), AnchoredComments.NONE);
-        Check.due("11 negative", y.attachAll(), 0);
-        AnchoredComments z = Check.with("abcdef");
-        z.comment(0, 6);
-        Check.load(z, "zzz");
-        z.setThreshold(0);
-        Check.due("11 score 0", z.attachAll(), 1);
-        z.undo();
-        Check.due("10 score 0", z.attach(0), 0);
+        x.setThreshold(threshold);
+        return x;
     }
 
-    private static void attachAll() {
-        AnchoredComments x = Check.with("one two three");
-        Check.due("11 no comments", x.attachAll(), AnchoredComments.NONE);
-        x.comment(0, 3);
-        x.comment(8, 13);
-        x.comment(4, 7);
-        Check.due("11 no orphans", x.attachAll(), AnchoredComments.NONE);
-        Check.load(x, "well: one two three");
-        x.comment(0, 4);
-        Check.due("11 three", x.attachAll(), 3);
-        Check.due("11 range 0", Check.range(x, 0), "6-9");
-        Check.due("11 range 1", Check.range(x, 1), "14-19");
-        Check.due("11 range 2", Check.range(x, 2), "10-13");
-        Check.due("11 the attached one stays", Check.range(x, 3), "0-4");
-        Check.due("11 quotes stay", Check.quotes(x, 2), "one |two| three");
-        Check.due("11 none again", x.attachAll(), AnchoredComments.NONE);
-        x.clearBuffer();
-        x.load();
-        Check.due("11 no candidates", x.attachAll(), 0);
-        Check.due("11 recorded", x.undo(), 5);
-    }
-
-    /** Alone each comment goes to its best range; together their order is kept. */
-    private static void together() {
-        AnchoredComments x = Check.with("aaaa----bbbb");
-        x.comment(0, 4);
-        x.comment(8, 12);
-        Check.load(x, "bbbb....aaaa");
-        x.setThreshold(50);
-        Check.due("11 one of the two", x.attachAll(), 1);
-        Check.due("11 the first gets it", Check.range(x, 0), "8-12");
-        Check.due("11 the second does not", Check.range(x, 1), "8-12?");
-        x.undo();
-        Check.due("10 the first alone", x.attach(0), 8);
-        Check.due("10 the second alone", x.attach(1), 0);
-        x.undo();
-        Check.due("11 attached ones do not bind", x.attachAll(), 1);
-        Check.due("11 the second then", Check.range(x, 1), "0-4");
-    }
-
-    private static void noneButCandidate() {
-        // with the threshold 0, candidates of the score 0 add nothing, but are rather got than none
-        AnchoredComments x = Check.with("abcdef");
-        x.comment(0, 6);
-        x.comment(0, 6);
-        Check.load(x, "zzz");
+    /** An ORPHAN with so many letters in a document of three others, with the threshold 0. */
+    private static AnchoredComments ofLetters(int letters) {
+        AnchoredComments x = Check.with("abcdefgh");
+        x.comment(0, letters);
+        Check.load(x, "zzzz");
         x.setThreshold(0);
-        Check.due("11 both of score 0", x.attachAll(), 2);
-        Check.due("11 the same start", Check.range(x, 0) + " " + Check.range(x, 1), "0-3 0-3");
-        x.undo();
-        x.setThreshold(1);
-        Check.due("11 none of score 0", x.attachAll(), 0);
+        return x;
     }
 
-    private static void rangesAsBefore() {
-        AnchoredComments x = Check.with("....................ab");
-        x.comment(20, 22);
-        x.comment(20, 22);
-        Check.load(x, "ab");
-        Check.due("11 ranges", Check.range(x, 0) + " " + Check.range(x, 1), "2-2? 2-2?");
-        Check.insert(x, 0, "..............................");
-        Check.due("11 best", x.best(0, 0), 84);
-        Check.due("11 both", x.attachAll(), 2);
-        Check.due("11 ranges then", Check.range(x, 0) + " " + Check.range(x, 1), "30-32 30-32");
-    }
-
-    private static void order() {
-        // the order of the starts, not of the numbers
-        AnchoredComments x = Check.with("ab..cd");
-        x.comment(4, 6);
-        x.comment(0, 2);
-        Check.load(x, "ab..cd");
-        Check.due("11 by starts", x.attachAll(), 2);
-        Check.due("11 ranges by starts", Check.range(x, 0) + " " + Check.range(x, 1), "4-6 0-2");
-        // the same start: the order of the numbers
-        AnchoredComments y = Check.with("<ab..cd>");
-        y.comment(5, 7);
-        y.comment(1, 3);
-        y.delete(0, 8);
-        Check.insert(y, 0, "<ab..cd>");
-        Check.due("11 moved to the end", Check.range(y, 0) + " " + Check.range(y, 1), "8-8? 8-8?");
-        Check.due("11 only one fits in this order", y.attachAll(), 1);
-        Check.due("11 the greater score", y.state(0) + y.state(1), 1);
-    }
-
-    private static void equalSums() {
-        // either one alone gives the same sum: the first one gets it
+    /** Two letters of two, so many letters away from where they were, with the threshold of a new object. */
+    private static AnchoredComments away(int letters) {
         AnchoredComments x = Check.with("ab");
-        x.comment(0, 1);
-        x.comment(1, 2);
-        x.delete(0, 2);
-        Check.insert(x, 0, "ba");
-        x.setThreshold(60);
-        Check.due("11 scores", x.best(0, 0) * 1000 + x.best(1, 0), 60060);
-        Check.due("11 one", x.attachAll(), 1);
-        Check.due("11 rather a candidate than none", Check.range(x, 0) + " " + Check.range(x, 1), "1-2 2-2?");
-        // of several the lower start
-        AnchoredComments y = Check.with("q");
-        y.comment(0, 1);
-        y.delete(0, 1);
-        Check.insert(y, 0, ".q.q.");
-        Check.due("11 at the end", Check.range(y, 0), "5-5?");
-        Check.due("11 a tie", y.attachAll(), 1);
-        Check.due("11 the lower start", Check.range(y, 0), "1-2");
-        // the candidate with the greater score, though that leaves less to those behind, if the sums are equal
-        AnchoredComments z = Check.with("qr");
-        z.comment(0, 1);
-        z.comment(1, 2);
-        z.load();
-        z.setThreshold(0);
-        Check.due("11 both at their places", z.attachAll(), 2);
-        Check.due("11 their ranges", Check.range(z, 0) + " " + Check.range(z, 1), "0-1 1-2");
+        x.comment(0, 2);
+        Check.load(x, ".".repeat(letters) + "ab");
+        return x;
     }
 
-    private static void tenOrphans() {
-        AnchoredComments x = Check.with("a1b2c3d4e5f6g7h8i9j0");
-        for (int i = 0; i < 10; i++) {
-            x.comment(2 * i, 2 * i + 2);
-        }
-        Check.load(x, "~~~a1b2c3d4e5f6g7h8i9j0");
-        Check.due("11 ten", x.attachAll(), 10);
-        for (int i = 0; i < 10; i++) {
-            Check.due("11 ten, range " + i, Check.range(x, i), (3 + 2 * i) + "-" + (5 + 2 * i));
-        }
+    private static void aloneAtThreshold() {
+        answers("10 attach: the score is one more than the threshold", () -> ofFifty(49), x -> x.attach(0), 0);
+        answers("10 attach: the score is the threshold", () -> ofFifty(50), x -> x.attach(0), 0);
+        refused("10 attach: the score is one less than the threshold", () -> ofFifty(51), x -> x.attach(0), NONE);
+        answers("10 attach: the score is the threshold 0", () -> ofLetters(6), x -> x.attach(0), 0);
+        refused("10 attach: the score is below the threshold 0", () -> ofLetters(7), x -> x.attach(0), NONE);
+        answers("10 attach: the score 60 at the first threshold", () -> away(4), x -> x.attach(0), 4);
+        refused("10 attach: the score 59 at the first threshold", () -> away(5), x -> x.attach(0), NONE);
+        refused("10 attach: the score 107 at the threshold 108", after(document("123456QQ123456"), x -> {
+            x.comment(6, 8);
+            Check.load(x, ".....123456QQ123456");
+            x.setThreshold(108);
+        }), x -> x.attach(0), NONE);
     }
 
-    /** Two ORPHANs of the last letter of a document of 120 letters. */
-    private static void lastLetters() {
-        AnchoredComments x = Check.with("........................................");
-        x.insert(0);
-        Check.insert(x, 80, ".......................................");
-        Check.insert(x, 119, "q");
+    private static void togetherAtThreshold() {
+        answers("11 attachAll: the score is one more than the threshold", () -> ofFifty(49), AnchoredComments::attachAll, 1);
+        answers("11 attachAll: the score is the threshold", () -> ofFifty(50), AnchoredComments::attachAll, 1);
+        answers("11 attachAll: the score is one less than the threshold", () -> ofFifty(51), AnchoredComments::attachAll, 0);
+        answers("11 attachAll: the score is the threshold 0", () -> ofLetters(6), AnchoredComments::attachAll, 1);
+        answers("11 attachAll: the score is below the threshold 0", () -> ofLetters(7), AnchoredComments::attachAll, 0);
+        answers("11 attachAll: the score 60 at the first threshold", () -> away(4), AnchoredComments::attachAll, 1);
+        answers("11 attachAll: the score 59 at the first threshold", () -> away(5), AnchoredComments::attachAll, 0);
+        answers("11 attachAll: the score 108 at the threshold 108", after(document("123456QQ123456"), x -> {
+            x.comment(6, 8);
+            x.load();
+            x.setThreshold(108);
+        }), AnchoredComments::attachAll, 1);
+    }
+
+    /** The answer of attachAll(), and the ranges of the comments 0 and up then. */
+    private static void together(String name, Supplier<AnchoredComments> scene, int due, String ranges) {
+        test("11 attachAll: " + name, () -> {
+            AnchoredComments x = scene.get();
+            Check.due("it", x.attachAll(), due);
+            StringBuilder text = new StringBuilder();
+            for (int i = 0; i < x.comments(); i++) {
+                text.append(i == 0 ? "" : " ").append(Check.range(x, x.commentAt(i)));
+            }
+            Check.due("the ranges", text.toString(), ranges);
+        });
+    }
+
+    /** ORPHANs of these ranges of the one document in another one. */
+    private static Supplier<AnchoredComments> orphans(String before, String then, int threshold, int... bounds) {
+        return () -> {
+            AnchoredComments x = Check.with(before);
+            for (int i = 0; i < bounds.length; i += 2) {
+                x.comment(bounds[i], bounds[i + 1]);
+            }
+            Check.load(x, then);
+            x.setThreshold(threshold);
+            return x;
+        };
+    }
+
+    /** ORPHANs of these ranges, all of them empty and at the end of the letters that come in their place. */
+    private static Supplier<AnchoredComments> atTheEnd(String before, String then, int threshold, int... bounds) {
+        return () -> {
+            AnchoredComments x = orphans(before, before, threshold, bounds).get();
+            x.delete(0, before.length());
+            Check.insert(x, 0, then);
+            return x;
+        };
+    }
+
+    private static void starts() {
+        together("the starts may be the same", orphans("ab", "..ab", 60, 0, 2, 0, 2), 2, "2-4 2-4");
+        together("the starts may be the same, with other ends", orphans("abcd", "abcd", 60, 0, 4, 0, 2), 2, "0-4 0-2");
+        together("the ends may decrease", orphans("abcdef", "abcdef", 60, 0, 6, 2, 4), 2, "0-6 2-4");
+        together("the starts do not decrease", orphans("ab..cd", "cd..ab", 55, 0, 2, 4, 6), 1, "4-6 4-6?");
+        together("the starts do not decrease, the second one has the greater score", orphans("ab..cdX", "cdX.ab", 55, 0, 2, 4, 6),
+            1, "0-2? 0-2");
+        together("a start one less is too low", orphans("ab", "ba", 60, 0, 1, 1, 2), 1, "1-2 1-2?");
+        together("one that gets none does not bind those behind",
+            orphans("abQQcd", "cdab", 58, 0, 2, 2, 4, 4, 6), 1, "2-4 2-4? 4-4?");
+        together("one that gets none between two", orphans("abQQQQcd", "ab..cd", 58, 0, 2, 2, 6, 6, 8), 2, "0-2 2-6? 4-6");
+    }
+
+    private static void orders() {
+        together("the order of the starts, not that of the numbers", orphans("ab..cd", "ab..cd", 60, 4, 6, 0, 2), 2, "4-6 0-2");
+        together("of the same start the order of the numbers, as it fits", atTheEnd("ab..cd", "ab..cd", 55, 0, 2, 4, 6), 2, "0-2 4-6");
+        together("of the same start the order of the numbers, as it does not fit", atTheEnd("ab..cd", "ab..cd", 55, 4, 6, 0, 2),
+            1, "4-6 6-6?");
+        together("the order of the starts as they are now", () -> {
+            AnchoredComments x = orphans("ab..cd", "..cd..ab", 50, 0, 2, 4, 6).get();
+            x.attach(0);
+            // the comment 0 is behind the comment 1 when it loses its letters
+            x.delete(6, 2);
+            Check.insert(x, 6, "ab");
+            return x;
+        }, 2, "6-8 2-4");
+    }
+
+    private static void sums() {
+        together("the greatest sum, not the most comments",
+            orphans("123456abcd789012efgh", "abcXefgX123456abcd789012", 45, 6, 10, 16, 20), 1, "14-18 16-20?");
+        together("the most comments, if their sum is greater",
+            orphans("123456abcd789012efgh", "abcXefgX......abcd......", 45, 6, 10, 16, 20), 2, "0-3 4-7");
+        together("a lower score of the first one for a greater sum",
+            orphans("abcd", "aX.cd.ab", 45, 0, 2, 2, 4), 2, "0-1 3-5");
+        together("scores with the ranges as they were before", atTheEnd("ab", "ab.........", 50, 0, 2, 0, 2), 2, "0-2 0-2");
+    }
+
+    private static void preferences() {
+        together("of equal sums, rather a candidate than none for the first", atTheEnd("ab", "ba", 60, 0, 1, 1, 2), 1, "1-2 2-2?");
+        together("rather a candidate of the score 0 than none", orphans("abcdef", "zzz", 0, 0, 6), 1, "0-3");
+        together("rather candidates of the score 0 than none, for both", orphans("abcdef", "zzz", 0, 0, 6, 0, 6), 2, "0-3 0-3");
+        // 60 and 64 or 64 and 60
+        together("of equal sums, the greater score for the first, though the start is higher",
+            orphans("QxRy", "QRyQx.R.", 60, 0, 1, 2, 3), 2, "3-4 6-7");
+        together("of equal scores the lower start", atTheEnd("q", ".q.q.", 55, 0, 1), 1, "1-2");
+        together("of equal scores the lower start, though it is the longer one",
+            orphans("abc", "xbcbc", 50, 0, 3), 1, "0-3");
+        together("of equal scores and starts the shorter one", orphans("ab", "aX", 50, 0, 2), 1, "0-1");
+        together("of equal scores the lower start, for the second, too", orphans("a.q", "a.qq.q", 55, 0, 1, 2, 3), 2, "0-1 2-3");
+        together("the second gets no start below that of the first, though the score is equal",
+            orphans("a.b", "b,a,b", 60, 0, 1, 2, 3), 2, "2-3 4-5");
+        together("the second chooses of what the first has left", orphans("ab", "b.ab", 50, 0, 1, 1, 2), 2, "2-3 3-4");
+    }
+
+    /** 120 letters with the quote of both ORPHANs as the last one. */
+    private static AnchoredComments lastOf120() {
+        AnchoredComments x = Scenes.full();
+        for (int number = 0; number < 10; number++) {
+            x.remove(number);
+        }
+        x.delete(119, 1);
+        Check.insert(x, 119, "~");
         x.comment(119, 120);
         x.comment(119, 120);
         x.delete(119, 1);
         x.insert(119);
-        Check.due("11 at the end", Check.range(x, 0) + " " + Check.range(x, 1), "120-120? 120-120?");
-        Check.due("10 the last letter", x.best(0, 1), 119);
-        Check.due("11 the last letter for both", x.attachAll(), 2);
-        Check.due("11 ranges of both", Check.range(x, 0) + " " + Check.range(x, 1), "119-120 119-120");
+        return x;
     }
 
-    /** What was planned for more ORPHANs before must not bind those of now. */
-    private static void fewerThanBefore() {
-        AnchoredComments x = Check.with("cd..ab");
-        x.comment(0, 2);
-        x.comment(4, 6);
-        Check.load(x, "c.ab..cd");
-        x.setThreshold(50);
-        Check.due("11 two", x.attachAll(), 2);
-        Check.due("11 ranges of two", Check.range(x, 0) + " " + Check.range(x, 1), "0-1 2-4");
-        x.undo();
-        x.remove(1);
-        Check.due("11 one then", x.attachAll(), 1);
-        Check.due("11 range of one", Check.range(x, 0), "6-8");
+    private static void far() {
+        together("the last of 120 letters, for both", AttachTest::lastOf120, 2, "119-120 119-120");
+        answers("10 attach: the last of 120 letters", AttachTest::lastOf120, x -> x.attach(11), 119);
+        together("far away from where they were", after(orphans("ab", "ab", 50, 0, 2, 0, 2), x -> {
+            Check.load(x, ".".repeat(38) + "ab");
+        }), 2, "38-40 38-40");
+        together("fewer ORPHANs than the time before", () -> {
+            AnchoredComments x = orphans("cd..ab", "c.ab..cd", 50, 0, 2, 4, 6).get();
+            Check.due("two", x.attachAll(), 2);
+            Check.due("their ranges", Check.range(x, 0) + " " + Check.range(x, 1), "0-1 2-4");
+            x.undo();
+            x.remove(1);
+            return x;
+        }, 1, "6-8");
+        together("more ORPHANs than the time before", () -> {
+            AnchoredComments x = orphans("cd..ab", "c.ab..cd", 50, 0, 2, 4, 6).get();
+            x.save(0);
+            x.remove(1);
+            x.attachAll();
+            Check.due("one", Check.range(x, 0), "6-8");
+            x.restore(0);
+            return x;
+        }, 2, "0-1 2-4");
+    }
+
+    private static void others() {
+        together("the ATTACHED ones stay, and do not bind", after(orphans("ab..cd", "cd..ab", 55, 0, 2, 4, 6), x -> {
+            x.attach(0);
+        }), 1, "4-6 0-2");
+        answers("11 attachAll: none is left", after(orphans("ab", "ab", 60, 0, 2), AnchoredComments::attachAll),
+            AnchoredComments::attachAll, NONE);
+        test("11 attachAll: the quotes and the weights stay", () -> {
+            AnchoredComments x = Check.with("ab-cd-ef");
+            x.comment(3, 5);
+            x.comment(3, 5);
+            x.merge();
+            Check.load(x, "..ab-cX-ef");
+            x.setThreshold(30);
+            Check.due("attachAll", x.attachAll(), 1);
+            Check.due("all", Check.all(x), "..ab-cX-ef #0 5-7 ab-|cd|-ef*2");
+        });
     }
 }

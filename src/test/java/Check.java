@@ -1,32 +1,79 @@
+import java.util.LinkedHashSet;
+import java.util.Set;
+
 /** What the tests share: the comparison of answers, and short ways to bring an object into a state. */
 final class Check {
+    private static final int MOST_SECONDS = 300;
+    private static final Set<String> NAMES = new LinkedHashSet<>();
     private static int asked = 0;
     private static int wrong = 0;
+    private static String place = "";
+
+    static {
+        endLateRuns();
+    }
 
     private Check() {
+    }
+
+    /** A call that never ends must fail a test, not hold up all of them. */
+    private static void endLateRuns() {
+        Thread watch = new Thread(() -> {
+            try {
+                Thread.sleep(MOST_SECONDS * 1000L);
+            } catch (InterruptedException ended) {
+                return;
+            }
+            System.out.println(place + "did not end in " + MOST_SECONDS + " seconds");
+            Runtime.getRuntime().halt(1);
+        });
+        watch.setDaemon(true);
+        watch.start();
+    }
+
+    /** A case of its own: what is wrong in it is told under its name, and the cases behind it go on. */
+    static void test(String name, Runnable body) {
+        place = name + ": ";
+        int before = asked;
+        try {
+            body.run();
+        } catch (RuntimeException | StackOverflowError thrown) {
+            fail("threw " + thrown);
+        }
+        if (asked == before || !NAMES.add(name)) {
+            fail("asks nothing, or has the name of another case");
+        }
+        place = "";
+    }
+
+    private static void fail(String how) {
+        wrong++;
+        System.out.println(place + how);
     }
 
     static void due(String call, long got, long want) {
         asked++;
         if (got != want) {
-            wrong++;
-            System.out.println(call + " answered " + got + ", due is " + want);
+            fail(call + " answered " + got + ", due is " + want);
         }
     }
 
     static void due(String what, String got, String want) {
         asked++;
         if (!got.equals(want)) {
-            wrong++;
-            System.out.println(what + " is <" + got + ">, due is <" + want + ">");
+            fail(what + " is <" + got + ">, due is <" + want + ">");
         }
     }
 
     static void finish() {
+        if (Boolean.getBoolean("project.cases")) {
+            NAMES.forEach(System.out::println);
+        }
         if (asked == 0 || wrong != 0) {
             System.out.println(wrong + " of " + asked + " answers are not as due");
             System.exit(1);
         }
+        System.out.println(asked + " answers are as due, in " + NAMES.size() + " named cases");
     }
 
     static void buffer(AnchoredComments x, String text) {

@@ -1,256 +1,295 @@
-/** Promises 7 to 9, 12, 16 to 21 and 25: what is made of comments and told of them. */
-public final class CommentsTest {
-    private static final int MIN = Integer.MIN_VALUE;
-    private static final int MAX = Integer.MAX_VALUE;
+/** Promises 7 to 9, 12 and 16 to 21: comments are made, numbered, listed, removed, quoted anew and merged. */
+public final class CommentsTest extends Cases {
     private static final String LONG = "abcdefghijklmnopqrstuvwxyz";
 
     public static void main(String[] args) {
         comment();
-        room();
-        quotes();
+        numbers();
         remove();
         quoteAnew();
-        merge();
-        mergeGroups();
         list();
-        noSuchComment();
-        quoted();
-        overlap();
+        merge();
+        mergedQuotesAndWeights();
         Check.finish();
     }
 
+    private static AnchoredComments three() {
+        AnchoredComments x = Check.with(LONG);
+        x.comment(0, 3);
+        x.comment(5, 21);
+        x.comment(25, 26);
+        return x;
+    }
+
     private static void comment() {
-        AnchoredComments x = Check.with(LONG);
-        int[] wrongStarts = {-1, 27, MIN, MAX};
-        for (int from : wrongStarts) {
-            Check.due("7 from " + from, x.comment(from, from + 1), AnchoredComments.BAD_INDEX);
-            Check.due("7 both " + from, x.comment(from, 5), AnchoredComments.BAD_INDEX);
-        }
-        int[] wrongEnds = {5, 4, 22, 27, -1, MIN, MAX};
-        for (int to : wrongEnds) {
-            Check.due("7 to " + to, x.comment(5, to), AnchoredComments.BAD_VALUE);
-        }
-        Check.due("7 behind the end", x.comment(20, 27), AnchoredComments.BAD_VALUE);
-        Check.due("7 at the end", x.comment(26, 27), AnchoredComments.BAD_VALUE);
-        Check.due("7 nothing recorded", Check.states(x), 1);
-        Check.load(x, LONG);
-        Check.due("7 one letter", x.comment(0, 1), 0);
-        Check.due("7 sixteen letters", x.comment(5, 21), 1);
-        Check.due("7 up to the end", x.comment(25, 26), 2);
-        Check.due("7 the same range", x.comment(25, 26), 3);
-        Check.due("7 all", Check.all(x), LONG + " #0 0-1 |a|bcdefg*1 #1 5-21 abcde|fghijklmnopqrstu|vwxyz*1"
-            + " #2 25-26 tuvwxy|z|*1 #3 25-26 tuvwxy|z|*1");
-        Check.due("7 recorded", Check.states(x), 5);
-        Check.due("7 empty document", new AnchoredComments().comment(0, 1), AnchoredComments.BAD_VALUE);
+        test("7 comment: what it is at first", () -> {
+            AnchoredComments x = Check.with("0123456789");
+            Check.due("comment", x.comment(3, 5), 0);
+            Check.due("state", x.state(0), ATTACHED);
+            Check.due("start", x.range(0, false), 3);
+            Check.due("end", x.range(0, true), 5);
+            Check.due("weight", x.weight(0), 1);
+            Check.due("quotes", Check.quotes(x, 0), "012|34|56789");
+            Check.due("distance", x.distance(0), 0);
+            Check.due("the document", Check.document(x), "0123456789");
+        });
+        test("7 comment: the others stay", () -> {
+            AnchoredComments x = three();
+            String before = Check.all(x);
+            Check.due("comment", x.comment(5, 21), 3);
+            Check.due("all", Check.all(x), before + " #3 5-21 abcde|fghijklmnopqrstu|vwxyz*1");
+        });
+        test("7 comment: it quotes the letters as they are then, and keeps them", () -> {
+            AnchoredComments x = Check.with("ab");
+            x.comment(0, 2);
+            Check.insert(x, 1, "cd");
+            x.comment(1, 3);
+            Check.due("the first", Check.quotes(x, 0), "|ab|");
+            Check.due("the second", Check.quotes(x, 1), "a|cd|b");
+        });
+        test("7 comment: the range of another one, and one across", () -> {
+            AnchoredComments x = three();
+            Check.due("the same range", x.comment(0, 3), 3);
+            Check.due("across", x.comment(2, 6), 4);
+            Check.due("ranges", Check.range(x, 3) + " " + Check.range(x, 4), "0-3 2-6");
+        });
     }
 
-    private static void room() {
-        AnchoredComments x = Check.with(LONG);
-        for (int i = 0; i < 10; i++) {
-            Check.due("7 number " + i, x.comment(i, i + 1), i);
-        }
-        Check.due("7 full", x.comment(0, 1), AnchoredComments.FULL);
-        Check.due("7 full, wrong end", x.comment(0, 17), AnchoredComments.BAD_VALUE);
-        Check.due("7 full, wrong start", x.comment(-1, 1), AnchoredComments.BAD_INDEX);
-        x.remove(4);
-        Check.due("7 no number twice", x.comment(4, 5), 10);
-        Check.due("7 full again", x.comment(0, 1), AnchoredComments.FULL);
-        Check.due("7 undo", x.undo(), 5);
-        Check.due("7 the number again", x.comment(7, 9), 10);
-        Check.due("7 in order", x.commentAt(9), 10);
-        Check.due("7 its range", Check.range(x, 10), "7-9");
+    private static void numbers() {
+        test("7 comment: numbers go on where the last comment was removed", () -> {
+            AnchoredComments x = Scenes.small();
+            x.remove(3);
+            Check.due("comment", x.comment(0, 1), 4);
+        });
+        test("7 comment: numbers go on where the last comment was merged", () -> {
+            AnchoredComments x = Scenes.small();
+            Check.due("the last", x.comment(0, 2), 4);
+            Check.due("merge", x.merge(), 1);
+            Check.due("comment", x.comment(0, 1), 5);
+        });
+        test("7 comment: a refused one takes no number", () -> {
+            AnchoredComments x = Scenes.small();
+            x.comment(-1, 1);
+            x.comment(0, 0);
+            Check.due("comment", x.comment(0, 1), 4);
+        });
+        test("13 undo: it brings the next number back", () -> {
+            AnchoredComments x = Scenes.small();
+            x.comment(0, 1);
+            x.comment(0, 1);
+            x.undo();
+            x.undo();
+            Check.due("comment", x.comment(0, 1), 4);
+        });
+        test("29 restore: it brings the next number back", () -> {
+            AnchoredComments x = Scenes.small();
+            x.comment(0, 1);
+            x.restore(0);
+            Check.due("comment", x.comment(0, 1), 4);
+        });
+        test("29 restore: it brings a greater next number, too", () -> {
+            AnchoredComments x = Scenes.small();
+            x.comment(0, 1);
+            x.save(0);
+            x.undo();
+            x.restore(0);
+            Check.due("comment", x.comment(0, 1), 5);
+        });
     }
 
-    private static void quotes() {
-        AnchoredComments x = Check.with("0123456789");
-        x.comment(6, 7);
-        x.comment(7, 8);
-        x.comment(3, 4);
-        x.comment(2, 4);
-        Check.due("7 six before", Check.quotes(x, 0), "012345|6|789");
-        Check.due("7 more before", Check.quotes(x, 1), "123456|7|89");
-        Check.due("7 six behind", Check.quotes(x, 2), "012|3|456789");
-        Check.due("7 two", Check.quotes(x, 3), "01|23|456789");
+    private static void removed(String name, int comment, String left) {
+        test("8 remove: " + name, () -> {
+            AnchoredComments x = three();
+            Check.due("it", x.remove(comment), 2);
+            Check.due("those left", Check.all(x), LONG + left);
+            Check.due("twice", x.remove(comment), BAD_INDEX);
+        });
     }
 
     private static void remove() {
-        AnchoredComments x = Check.with(LONG);
-        x.comment(0, 3);
-        x.comment(3, 6);
-        x.comment(6, 9);
-        Check.due("8 remove 3", x.remove(3), AnchoredComments.BAD_INDEX);
-        Check.due("8 remove -1", x.remove(-1), AnchoredComments.BAD_INDEX);
-        Check.due("8 remove 1", x.remove(1), 2);
-        Check.due("8 twice", x.remove(1), AnchoredComments.BAD_INDEX);
-        Check.due("8 those left", Check.all(x), LONG + " #0 0-3 |abc|defghi*1 #2 6-9 abcdef|ghi|jklmno*1");
-        Check.due("8 remove 0", x.remove(0), 1);
-        x.load();
-        Check.due("8 an orphan", x.remove(2), 0);
-        Check.due("8 recorded", x.undo(), 5);
-        Check.due("8 brought back", Check.range(x, 2), "6-9?");
-        Check.due("8 the next number", x.comment(0, 1), 3);
+        String first = " #0 0-3 |abc|defghi*1";
+        String second = " #1 5-21 abcde|fghijklmnopqrstu|vwxyz*1";
+        String third = " #2 25-26 tuvwxy|z|*1";
+        removed("the first", 0, second + third);
+        removed("one between", 1, first + third);
+        removed("the last", 2, first + second);
+        answers("8 remove: an ORPHAN", after(CommentsTest::three, AnchoredComments::load), x -> x.remove(1), 2);
+        test("8 remove: what is made in its place has nothing of it", () -> {
+            AnchoredComments x = three();
+            x.load();
+            x.remove(1);
+            x.comment(0, 1);
+            Check.due("the new one", Check.range(x, 3) + " " + Check.quotes(x, 3) + " " + x.weight(3), "0-1 |a|bcdefg 1");
+        });
     }
 
     private static void quoteAnew() {
-        AnchoredComments x = Check.with(LONG);
-        x.comment(3, 6);
-        Check.due("9 number", x.quoteAnew(1), AnchoredComments.BAD_INDEX);
-        Check.insert(x, 4, "0123456789012");
-        Check.due("9 range", Check.range(x, 0), "3-19");
-        Check.due("9 not by itself", Check.quotes(x, 0), "abc|def|ghijkl");
-        Check.due("9 sixteen", x.quoteAnew(0), 16);
-        Check.due("9 quotes", Check.quotes(x, 0), "abc|d0123456789012ef|ghijkl");
-        Check.insert(x, 4, "x");
-        Check.due("9 seventeen", x.quoteAnew(0), AnchoredComments.NOT_POSSIBLE);
-        Check.due("9 quotes stay", Check.quotes(x, 0), "abc|d0123456789012ef|ghijkl");
-        x.delete(5, 14);
-        x.delete(8, x.length() - 8);
-        Check.due("9 three", x.quoteAnew(0), 3);
-        Check.due("9 quotes then", Check.quotes(x, 0), "abc|dxf|gh");
-        Check.due("9 recorded", x.undo(), 5);
-        Check.due("9 undone", Check.quotes(x, 0), "abc|d0123456789012ef|ghijkl");
-        x.delete(3, 3);
-        Check.due("9 orphan", x.quoteAnew(0), AnchoredComments.NOT_POSSIBLE);
-        AnchoredComments y = Check.with("abc");
-        y.comment(0, 3);
-        y.load();
-        Check.due("9 orphan with a range", y.quoteAnew(0), AnchoredComments.NOT_POSSIBLE);
-    }
-
-    private static void merge() {
-        AnchoredComments x = Check.with("abcdef");
-        x.comment(0, 2);
-        x.comment(1, 3);
-        x.comment(0, 3);
-        x.comment(2, 3);
-        Check.due("12 none alike", x.merge(), AnchoredComments.NONE);
-        x.delete(0, 1);
-        Check.due("12 ranges", Check.all(x), "bcdef #0 0-1 |ab|cdef*1 #1 0-2 a|bc|def*1 #2 0-2 |abc|def*1 #3 1-2 ab|c|def*1");
-        Check.due("12 merge", x.merge(), 1);
-        Check.due("12 the lower one stays", Check.all(x), "bcdef #0 0-1 |ab|cdef*1 #1 0-2 a|bc|def*2 #3 1-2 ab|c|def*1");
-        Check.due("12 none again", x.merge(), AnchoredComments.NONE);
-        x.delete(0, 1);
-        Check.due("12 orphans do not merge", x.merge(), 1);
-        Check.due("12 the weights are added", Check.all(x), "cdef #0 0-0? |ab|cdef*1 #1 0-1 a|bc|def*3");
-        x.load();
-        x.comment(0, 1);
-        Check.due("12 an orphan of the same range", x.merge(), AnchoredComments.NONE);
-        Check.due("12 recorded, NONE not", x.undo(), 5);
-    }
-
-    private static void mergeGroups() {
-        AnchoredComments x = Check.with("abcdef");
-        int[] starts = {3, 1, 3, 0, 1, 3, 1, 3, 5, 3};
-        for (int start : starts) {
-            x.comment(start, start + 1);
-        }
-        Check.due("12 groups", x.merge(), 6);
-        Check.due("12 groups merged", Check.all(x), "abcdef #0 3-4 abc|d|ef*5 #1 1-2 a|b|cdef*3"
-            + " #3 0-1 |a|bcdef*1 #8 5-6 abcde|f|*1");
-        x.undo();
-        Check.due("12 undone", x.comments(), 10);
-        x.load();
-        Check.due("12 all orphans", x.merge(), AnchoredComments.NONE);
+        test("9 quoteAnew: the quote, the prefix and the suffix as they are now", () -> {
+            AnchoredComments x = Check.with("..abcdef..");
+            x.comment(4, 6);
+            Check.insert(x, 5, "+");
+            Check.insert(x, 4, "<");
+            Check.insert(x, 8, ">");
+            Check.due("the range", Check.range(x, 0), "5-8");
+            Check.due("not by itself", Check.quotes(x, 0), "..ab|cd|ef..");
+            Check.due("distance", x.distance(0), 1);
+            Check.due("quoteAnew", x.quoteAnew(0), 3);
+            Check.due("quotes", Check.quotes(x, 0), "..ab<|c+d|>ef..");
+            Check.due("distance then", x.distance(0), 0);
+            Check.due("range, state and weight stay", Check.range(x, 0) + " " + x.weight(0), "5-8 1");
+        });
+        test("9 quoteAnew: a shorter quote", () -> {
+            AnchoredComments x = three();
+            x.delete(6, 14);
+            Check.due("quoteAnew", x.quoteAnew(1), 2);
+            Check.due("quotes", Check.quotes(x, 1), "abcde|fu|vwxyz");
+            Check.due("behind it", x.quoted(1, 1, 2), NONE);
+        });
+        test("9 quoteAnew: only this one", () -> {
+            AnchoredComments x = three();
+            x.delete(3, 1);
+            Check.due("quoteAnew", x.quoteAnew(0), 3);
+            Check.due("quotes of 0", Check.quotes(x, 0), "|abc|efghij");
+            Check.due("quotes of 1", Check.quotes(x, 1), "abcde|fghijklmnopqrstu|vwxyz");
+        });
+        answers("9 quoteAnew: attached again", after(CommentsTest::three, x -> {
+            Check.load(x, "..abc..");
+            x.attach(0);
+        }), x -> x.quoteAnew(0), 3);
     }
 
     private static void list() {
-        AnchoredComments x = Check.with("abcdef");
-        for (int i = 0; i < 4; i++) {
-            Check.due("16 comments", x.comments(), i);
-            x.comment(5 - i, 6 - i);
-        }
-        x.remove(1);
-        Check.due("16 comments", x.comments(), 3);
-        Check.due("17 commentAt 0", x.commentAt(0), 0);
-        Check.due("17 commentAt 1", x.commentAt(1), 2);
-        Check.due("17 commentAt 2", x.commentAt(2), 3);
-        int[] wrong = {-1, 3, 10, 11, MIN, MAX};
-        for (int index : wrong) {
-            Check.due("17 commentAt " + index, x.commentAt(index), AnchoredComments.BAD_INDEX);
-        }
-        Check.due("18 state", x.state(0), AnchoredComments.ATTACHED);
-        Check.due("19 start", x.range(2, false), 3);
-        Check.due("19 end", x.range(2, true), 4);
-        Check.due("20 weight", x.weight(3), 1);
-        x.load();
-        Check.due("18 state then", x.state(0), AnchoredComments.ORPHAN);
-        Check.due("19 an orphan's start", x.range(2, false), 3);
-        Check.due("16 orphans too", x.comments(), 3);
-    }
-
-    private static void noSuchComment() {
-        AnchoredComments x = Check.with("abcdef");
-        x.comment(0, 2);
-        x.comment(1, 3);
-        x.comment(2, 4);
-        x.remove(1);
-        int[] wrong = {-1, 1, 3, 10, MIN, MAX};
-        int bad = AnchoredComments.BAD_INDEX;
-        for (int comment : wrong) {
-            Check.due("8 remove " + comment, x.remove(comment), bad);
-            Check.due("9 quoteAnew " + comment, x.quoteAnew(comment), bad);
-            Check.due("10 attach " + comment, x.attach(comment), bad);
-            Check.due("18 state " + comment, x.state(comment), bad);
-            Check.due("19 start " + comment, x.range(comment, false), bad);
-            Check.due("19 end " + comment, x.range(comment, true), bad);
-            Check.due("20 weight " + comment, x.weight(comment), bad);
-            Check.due("21 quoted " + comment, x.quoted(comment, 3, 0), bad);
-            Check.due("22 distance " + comment, x.distance(comment), bad);
-            Check.due("23 score " + comment, x.score(comment, 0, 99), bad);
-            Check.due("24 best " + comment, x.best(comment, 3), bad);
-            Check.due("25 overlap " + comment, x.overlap(comment, 0), bad);
-            Check.due("25 overlap with " + comment, x.overlap(0, comment), bad);
-            Check.due("25 overlap with itself " + comment, x.overlap(comment, comment), bad);
-        }
-        Check.due("nothing recorded", Check.states(x), 5);
-    }
-
-    private static void quoted() {
-        AnchoredComments x = Check.with("abcdefghijk");
-        x.comment(4, 6);
-        Check.due("21 quotes", Check.quotes(x, 0), "abcd|ef|ghijk");
-        Check.due("21 prefix 0", x.quoted(0, 0, 0), 'a');
-        Check.due("21 quote 1", x.quoted(0, 1, 1), 'f');
-        Check.due("21 suffix 4", x.quoted(0, 2, 4), 'k');
-        int[] wrongParts = {-1, 3, MIN, MAX};
-        for (int part : wrongParts) {
-            Check.due("21 part " + part, x.quoted(0, part, 0), AnchoredComments.BAD_VALUE);
-            Check.due("21 part and index " + part, x.quoted(0, part, -1), AnchoredComments.BAD_VALUE);
-        }
-        int[] lengths = {4, 2, 5};
-        for (int part = 0; part <= 2; part++) {
-            int[] wrong = {-1, lengths[part], 6, 16, 17, MIN, MAX};
-            for (int index : wrong) {
-                Check.due("21 index " + index, x.quoted(0, part, index), AnchoredComments.NONE);
+        test("16 comments, 17 commentAt: in ascending order of the numbers", () -> {
+            AnchoredComments x = Check.with("abcdef");
+            for (int i = 0; i < 5; i++) {
+                Check.due("comments", x.comments(), i);
+                x.comment(5 - i, 6 - i);
             }
-        }
-        Check.load(x, "z");
-        Check.due("21 stays", Check.quotes(x, 0), "abcd|ef|ghijk");
-        AnchoredComments y = Check.with("abc");
-        y.comment(0, 3);
-        Check.due("21 no prefix", y.quoted(0, 0, 0), AnchoredComments.NONE);
-        Check.due("21 no suffix", y.quoted(0, 2, 0), AnchoredComments.NONE);
+            x.remove(2);
+            x.remove(0);
+            int[] due = {1, 3, 4, BAD_INDEX};
+            for (int index = 0; index < due.length; index++) {
+                Check.due("commentAt " + index, x.commentAt(index), due[index]);
+            }
+            Check.due("comments", x.comments(), 3);
+        });
+        test("16 comments: after each call that changes them", () -> {
+            AnchoredComments x = three();
+            x.save(0);
+            x.comment(0, 3);
+            Check.due("comment", x.comments(), 4);
+            x.merge();
+            Check.due("merge", x.comments(), 3);
+            x.remove(1);
+            Check.due("remove", x.comments(), 2);
+            x.undo();
+            x.undo();
+            Check.due("undo", x.comments(), 4);
+            x.restore(0);
+            Check.due("restore", x.comments(), 3);
+        });
+        test("18 state: after each call that changes it", () -> {
+            AnchoredComments x = Check.with("ab");
+            x.comment(0, 1);
+            Check.due("comment", x.state(0), ATTACHED);
+            x.save(0);
+            x.delete(0, 1);
+            Check.due("delete", x.state(0), ORPHAN);
+            x.undo();
+            Check.due("undo", x.state(0), ATTACHED);
+            x.load();
+            Check.due("load", x.state(0), ORPHAN);
+            x.attach(0);
+            Check.due("attach", x.state(0), ATTACHED);
+            x.undo();
+            x.attachAll();
+            Check.due("attachAll", x.state(0), ATTACHED);
+            x.undo();
+            Check.due("undo again", x.state(0), ORPHAN);
+            x.restore(0);
+            Check.due("restore", x.state(0), ATTACHED);
+        });
+        test("20 weight: it stays, whatever becomes of the range and the quote", () -> {
+            AnchoredComments x = ofBounds(1, 3, 1, 3);
+            x.merge();
+            Check.insert(x, 2, "zz");
+            x.quoteAnew(0);
+            Check.load(x, "abzzc");
+            Check.due("an ORPHAN", x.weight(0), 2);
+            x.attach(0);
+            Check.due("attached", x.weight(0), 2);
+        });
+        test("16 comments, 18 state, 19 range: ORPHANs are comments, too", () -> {
+            AnchoredComments x = three();
+            x.delete(25, 1);
+            Check.due("comments", x.comments(), 3);
+            Check.due("commentAt", x.commentAt(2), 2);
+            Check.due("states", x.state(0) * 100 + x.state(1) * 10 + x.state(2), 110);
+            Check.due("start", x.range(2, false), 25);
+            Check.due("end", x.range(2, true), 25);
+            Check.due("weight", x.weight(2), 1);
+            Check.due("quote", x.quoted(2, 1, 0), 'z');
+        });
     }
 
-    private static void overlap() {
-        AnchoredComments x = Check.with("abcdefghijk");
-        x.comment(2, 6);
-        x.comment(4, 9);
-        x.comment(6, 8);
-        x.comment(0, 1);
-        Check.due("25 part", x.overlap(0, 1), 2);
-        Check.due("25 the other way", x.overlap(1, 0), 2);
-        Check.due("25 neighbours", x.overlap(0, 2), 0);
-        Check.due("25 far", x.overlap(3, 2), 0);
-        Check.due("25 inside", x.overlap(1, 2), 2);
-        Check.due("25 itself", x.overlap(1, 1), 5);
-        Check.load(x, "abcdefg");
-        Check.due("25 orphans", x.overlap(0, 1), 2);
-        Check.due("25 orphans cut", x.overlap(2, 1), 1);
-        x.delete(3, 4);
-        Check.due("25 empty", x.overlap(2, 2), 0);
-        Check.due("25 empty and other", x.overlap(0, 2), 0);
-        x.comment(0, 3);
-        Check.due("25 orphan and attached", x.overlap(0, 4), 1);
+    /** Comments of "abcdef" with these bounds. */
+    private static AnchoredComments ofBounds(int... bounds) {
+        AnchoredComments x = Check.with("abcdef");
+        for (int i = 0; i < bounds.length; i += 2) {
+            x.comment(bounds[i], bounds[i + 1]);
+        }
+        return x;
+    }
+
+    private static void merged(String name, AnchoredComments x, int due, String then) {
+        test("12 merge: " + name, () -> {
+            Check.due("it", x.merge(), due);
+            StringBuilder text = new StringBuilder();
+            for (int i = 0; i < x.comments(); i++) {
+                int comment = x.commentAt(i);
+                text.append(i == 0 ? "" : " ").append(comment).append(':').append(Check.range(x, comment));
+                text.append('*').append(x.weight(comment));
+            }
+            Check.due("the comments", text.toString(), then);
+        });
+    }
+
+    private static void merge() {
+        merged("two of the same range", ofBounds(1, 3, 1, 3), 1, "0:1-3*2");
+        merged("the same start with another end stays", ofBounds(1, 3, 1, 4, 1, 3), 1, "0:1-3*2 1:1-4*1");
+        merged("the same end with another start stays", ofBounds(1, 3, 2, 3, 1, 3), 1, "0:1-3*2 1:2-3*1");
+        merged("of each range the lowest number", ofBounds(3, 4, 0, 1, 0, 1, 3, 4, 0, 1), 3, "0:3-4*2 1:0-1*3");
+        merged("the first and the last", ofBounds(0, 1, 2, 3, 0, 1), 1, "0:0-1*2 1:2-3*1");
+        merged("ten in groups", ofBounds(3, 4, 1, 2, 3, 4, 0, 1, 1, 2, 3, 4, 1, 2, 3, 4, 5, 6, 3, 4), 6,
+            "0:3-4*5 1:1-2*3 3:0-1*1 8:5-6*1");
+        AnchoredComments orphan = ofBounds(1, 3);
+        orphan.load();
+        orphan.comment(1, 3);
+        orphan.comment(1, 3);
+        merged("an ORPHAN of the same range stays", orphan, 1, "0:1-3?*1 1:1-3*2");
+        AnchoredComments again = ofBounds(0, 1, 0, 1);
+        again.merge();
+        again.comment(0, 1);
+        merged("once more", again, 1, "0:0-1*3");
+        AnchoredComments moved = ofBounds(0, 1, 0, 1, 0, 2, 0, 2, 0, 2);
+        moved.merge();
+        moved.delete(1, 1);
+        merged("the weights of merged ones are added", moved, 1, "0:0-1*5");
+    }
+
+    private static void mergedQuotesAndWeights() {
+        test("12 merge: the quote of the one that stays", () -> {
+            AnchoredComments x = ofBounds(1, 2, 1, 3);
+            x.delete(2, 1);
+            Check.due("merge", x.merge(), 1);
+            Check.due("quotes", Check.quotes(x, 0), "a|b|cdef");
+        });
+        test("12 merge: undo() brings the comments and the weights back", () -> {
+            AnchoredComments x = ofBounds(1, 2, 1, 2);
+            String before = Check.all(x);
+            x.merge();
+            x.undo();
+            Check.due("all", Check.all(x), before);
+        });
     }
 }

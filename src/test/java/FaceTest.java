@@ -52,15 +52,11 @@ public final class FaceTest {
             }
         }
         Check.due("the methods", String.join(" ", methods), METHODS);
+        hidden(AnchoredComments.class, publicNames);
         for (Class<?> inside : AnchoredComments.class.getDeclaredClasses()) {
-            Check.due(inside + " static", Modifier.isStatic(inside.getModifiers()) ? 1 : 0, 1);
-            for (Method method : inside.getDeclaredMethods()) {
-                Check.due(inside + " " + method, publicNames.contains(method.getName()) ? 1 : 0, 0);
-            }
-        }
-        for (Method method : AnchoredComments.class.getDeclaredMethods()) {
-            boolean hides = Modifier.isPrivate(method.getModifiers()) && publicNames.contains(method.getName());
-            Check.due("private " + method.getName(), hides ? 1 : 0, 0);
+            int seen = inside.getModifiers() & (Modifier.STATIC | Modifier.PUBLIC | Modifier.PROTECTED);
+            Check.due(inside + " is static and not public", seen, Modifier.STATIC);
+            hidden(inside, publicNames);
         }
         TreeSet<String> fields = new TreeSet<>();
         for (Field field : AnchoredComments.class.getDeclaredFields()) {
@@ -76,13 +72,26 @@ public final class FaceTest {
         Check.due("class", AnchoredComments.class.getModifiers() & wanted, wanted);
     }
 
+    /** No private method bears the name of a public one. */
+    private static void hidden(Class<?> type, TreeSet<String> publicNames) {
+        for (Method method : type.getDeclaredMethods()) {
+            boolean hides = Modifier.isPrivate(method.getModifiers()) && publicNames.contains(method.getName());
+            Check.due("private " + method, hides ? 1 : 0, 0);
+        }
+    }
+
     private static void source() throws IOException {
         String path = System.getProperty("project.main", "src/main/java/AnchoredComments.java");
-        String text = Files.readString(Path.of(path), StandardCharsets.US_ASCII);
+        String text = Files.readString(Path.of(path), StandardCharsets.ISO_8859_1);
         text = text.replaceAll("(?s)/\\*.*?\\*/", "").replaceAll("//[^\n]*", "");
-        Pattern ruledOut = Pattern.compile("\\b(throw|throws|try|catch|synchronized|assert|import|package|protected"
-            + "|instanceof|equals|hashCode|toString)\\b|->|::|Exact|static\\s*\\{");
-        Matcher found = ruledOut.matcher(text);
-        Check.due("what is ruled out", found.find() ? found.group() : "", "");
+        String[] ruledOut = {
+            "\\b(throw|throws|try|catch|synchronized|assert|package|protected|hashCode)\\b", "\\w+Exact\\b",
+            "\\bstatic\\s*\\{", "::", "\\bimport (?!java\\.util\\.(ArrayList|List|Iterator|Arrays);)",
+            "(?m)^(?!\\s*(case\\b|default\\b)).*->",
+        };
+        for (String pattern : ruledOut) {
+            Matcher found = Pattern.compile(pattern).matcher(text);
+            Check.due("what LANGUAGE.md rules out by " + pattern, found.find() ? found.group() : "", "");
+        }
     }
 }

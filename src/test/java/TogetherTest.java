@@ -10,6 +10,8 @@ public final class TogetherTest {
     private final Random random;
     private final AnchoredComments x = new AnchoredComments();
     private final List<Integer> orphans = new ArrayList<>();
+    // for each ORPHAN all that it may get; asked once, as an object is good for 512 calls
+    private final List<List<int[]>> choices = new ArrayList<>();
     // each way has for each ORPHAN the start, the end and the score of what it gets
     private List<int[][]> ways = new ArrayList<>();
     private int threshold;
@@ -38,6 +40,9 @@ public final class TogetherTest {
     /** Tells 1 if there were several ways of the greatest sum. */
     private int go() {
         makeOrphans();
+        for (int comment : orphans) {
+            choices.add(choicesOf(comment));
+        }
         findWays(new int[orphans.size()][], 0);
         keepGreatestSums();
         int many = ways.size();
@@ -85,8 +90,19 @@ public final class TogetherTest {
         }
     }
 
-    private int quoteLength(int comment) {
-        return Check.part(x, comment, 1).length();
+    private List<int[]> choicesOf(int comment) {
+        List<int[]> found = new ArrayList<>();
+        int length = x.length();
+        int m = Check.part(x, comment, 1).length();
+        for (int from = 0; from < length; from++) {
+            for (int to = from + Math.max(1, m - 3); to <= Math.min(length, from + m + 3); to++) {
+                int score = x.score(comment, from, to);
+                if (score >= threshold) {
+                    found.add(new int[] {from, to, score});
+                }
+            }
+        }
+        return found;
     }
 
     private void findWays(int[][] way, int i) {
@@ -100,15 +116,10 @@ public final class TogetherTest {
         for (int j = 0; j < i; j++) {
             least = Math.max(least, way[j][0]);
         }
-        int comment = orphans.get(i);
-        int m = quoteLength(comment);
-        for (int from = least; from < x.length(); from++) {
-            for (int to = from + Math.max(1, m - 3); to <= Math.min(x.length(), from + m + 3); to++) {
-                int score = x.score(comment, from, to);
-                if (score >= threshold) {
-                    way[i] = new int[] {from, to, score};
-                    findWays(way, i + 1);
-                }
+        for (int[] choice : choices.get(i)) {
+            if (choice[0] >= least) {
+                way[i] = choice;
+                findWays(way, i + 1);
             }
         }
         way[i] = NOTHING;
