@@ -167,6 +167,10 @@ public final class AttachTest extends Cases {
         together("of the same start the order of the numbers, as it fits", atTheEnd("ab..cd", "ab..cd", 55, 0, 2, 4, 6), 2, "0-2 4-6");
         together("of the same start the order of the numbers, as it does not fit", atTheEnd("ab..cd", "ab..cd", 55, 4, 6, 0, 2),
             1, "4-6 6-6?");
+        together("of the same start the order of the numbers, the longer range first",
+            orphans("abcdXY", "ab~~~~abCd", 45, 0, 4, 0, 2), 2, "6-10 6-8");
+        together("of the same start the order of the numbers, the shorter range first",
+            orphans("abcdXY", "ab~~~~abCd", 45, 0, 2, 0, 4), 2, "0-2 6-10");
         together("the order of the starts as they are now", () -> {
             AnchoredComments x = orphans("ab..cd", "..cd..ab", 50, 0, 2, 4, 6).get();
             x.attach(0);
