@@ -717,11 +717,12 @@ public final class AnchoredComments {
         }
 
         private void dropOldest() {
-            Page oldest = pages[0];
+            // the oldest page goes behind the others, to be used again
             for (int i = 1; i < pages.length; i++) {
+                Page oldest = pages[i - 1];
                 pages[i - 1] = pages[i];
+                pages[i] = oldest;
             }
-            pages[pages.length - 1] = oldest;
             count = pages.length - 1;
         }
 
@@ -815,6 +816,9 @@ public final class AnchoredComments {
         private void takeLetter(Text quote, int letter) {
             int[] letters = quote.letters;
             int last = Math.min(quote.size, Math.min(letters.length, row.length - 1));
+            if (last < 0) {
+                return;
+            }
             int diagonal = row[0];
             int left = diagonal + 1;
             row[0] = left;
@@ -847,7 +851,7 @@ public final class AnchoredComments {
         }
 
         void weigh(Note orphan, Text document, int threshold, Finder finder) {
-            size = Math.min(document.size, scores.length);
+            size = Math.min(document.size, Math.min(scores.length, ends.length));
             for (int start = 0; start < size; start++) {
                 int score = finder.searchAt(orphan, document, start);
                 scores[start] = score < threshold ? NONE : score;
@@ -867,7 +871,7 @@ public final class AnchoredComments {
             int greatest = 0;
             for (int start = sums.length - 1; start >= 0; start--) {
                 greatest = Math.max(greatest, behind.sumFrom(start));
-                if (start < size && scores[start] != NONE) {
+                if (start < size && start < scores.length && scores[start] != NONE) {
                     greatest = Math.max(greatest, scores[start] + behind.sumFrom(start));
                 }
                 sums[start] = greatest;
@@ -886,7 +890,7 @@ public final class AnchoredComments {
         int choose(int from, Choices behind) {
             int chosen = NONE;
             int greatest = NONE;
-            for (int start = Math.max(0, from); start < size; start++) {
+            for (int start = Math.max(0, from); start < size && start < scores.length; start++) {
                 int score = scores[start];
                 if (score > greatest && score + behind.sumFrom(start) == sumFrom(from)) {
                     greatest = score;
@@ -928,7 +932,7 @@ public final class AnchoredComments {
         }
 
         private void takeIn(Note orphan) {
-            if (count >= orphans.length) {
+            if (count < 0 || count >= orphans.length) {
                 return;
             }
             int place = count;
