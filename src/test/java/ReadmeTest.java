@@ -30,7 +30,8 @@ public final class ReadmeTest {
         Check.test("README: each call of the class has a row, and no other one", page::calls);
         Check.test("README: each constant has a row, with its value", page::constants);
         TreeSet<String> tests = tests();
-        Check.test("README: each test has a row", () -> Check.due("the tests", page.rows(TEST_ROW, 1), String.join(" ", tests)));
+        Check.test("README: each test has a row", () ->
+            Check.due("the tests", page.rows(TEST_ROW, 1), String.join(" ", tests)));
         Check.finish();
     }
 
